@@ -1006,12 +1006,16 @@ public final class LosslessFabric {
                 carry(plan, row, l);
             }
             for (int l = 0; l < plan.linkCount; l++) {
-                arrive(plan, row, l);
+                if (row[CARRIED + l] > 0) {
+                    arrive(plan, row, l);
+                }
                 ask(row, l);
             }
             // A notice touches no queue: each can be obeyed before the next link is sampled.
             for (int l = 0; l < plan.linkCount; l++) {
-                sample(plan, row, l);
+                if (row[CARRIED + l] > 0) {
+                    sample(plan, row, l);
+                }
             }
             for (int f = 0; f < plan.flowCount; f++) {
                 if (row[ON + f] == 1) {
@@ -1028,17 +1032,18 @@ public final class LosslessFabric {
 
         private void carry(Plan plan, int[] row, int link) {
             int base = link * MAX_FLOWS;
+            boolean paused = plan.isPaused(row, link);
+            int all = 0;
             for (int f = 0; f < plan.flowCount; f++) {
                 moved[base + f] = 0;
+                left[f] = paused ? 0 : ready(row, plan.linkAhead[base + f], f);
+                all += left[f];
             }
-            row[CARRIED + link] = 0;
-            if (plan.isPaused(row, link)) {
+            row[CARRIED + link] = Math.min(all, plan.caps[link]);
+            if (all == 0) {
                 return;
             }
-            for (int f = 0; f < plan.flowCount; f++) {
-                left[f] = ready(row, plan.linkAhead[base + f], f);
-            }
-            row[CARRIED + link] = takeTurns(base, plan.flowCount, plan.caps[link]);
+            takeTurns(base, plan.flowCount, row[CARRIED + link]);
             for (int f = 0; f < plan.flowCount; f++) {
                 if (moved[base + f] > 0) {
                     takeOff(row, plan.linkAhead[base + f], f, moved[base + f]);
@@ -1053,25 +1058,24 @@ public final class LosslessFabric {
             return from == SOURCE ? row[CREDIT + flow] / PARTS_OF_A_CELL : 0;
         }
 
-        /** Many rounds at once: until a flow has no more, or less is free than a round takes. */
-        private int takeTurns(int base, int flows, int cap) {
-            int free = cap;
-            for (int turns = 0; turns < MAX_FLOWS + 2; turns++) {
+        /** Many rounds at once: until a flow has no more, or fewer are wanted than a round gives. */
+        private void takeTurns(int base, int flows, int cells) {
+            int wanted = cells;
+            for (int turns = 0; turns < MAX_FLOWS + 2 && wanted > 0; turns++) {
                 int givers = 0;
-                int rounds = free;
+                int rounds = wanted;
                 for (int f = 0; f < flows; f++) {
                     if (left[f] > 0) {
                         givers++;
                         rounds = Math.min(rounds, left[f]);
                     }
                 }
-                if (givers == 0 || free == 0) {
-                    break;
+                if (givers == 0) {
+                    return;
                 }
-                rounds = Math.min(rounds, free / givers);
-                free -= rounds == 0 ? giveEach(base, flows, 1, free) : giveEach(base, flows, rounds, givers);
+                rounds = Math.min(rounds, wanted / givers);
+                wanted -= rounds == 0 ? giveEach(base, flows, 1, wanted) : giveEach(base, flows, rounds, givers);
             }
-            return cap - free;
         }
 
         /** The first so many flows that have cells left give so many each: how many in all. */

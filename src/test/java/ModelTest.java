@@ -101,17 +101,26 @@ public final class ModelTest {
         due("fault(1)", x.fault(1), m.fault(1));
     }
 
-    /** A text with a few signs or tokens changed. */
+    private static final String[] SIGNS = {"link", "flow", "off", "seed", "sample", "stage", ";", " ", "0", "1", "65", "1025",
+        "2000", "a", "b", "samples", "abcdefg", "abcdef", "\n", "#", "A", "\u00e9", "00000000000000000009", "99999999999999999999"};
+    private static final String[] LINES = {"link zz 1 0 2 1 3;", "link a 1 0 2 1 3;", "link b 1 0 2 2 3;", "flow zz 5 a;", "flow a 5 a;",
+        "flow zy 5 a b a;", "flow zx 5 a b c d e f;", "flow zw 5 k;", "flow zv 1024 c b a;", "off a;", "off b;", "off k;", "off zz;",
+        "seed 7;", "seed 99999;", "sample 1 1 1;", "stage 1 1 1;", "sample 999 500 4;", "stage 999 99 99;"};
+
+    /** A text with a few signs, tokens or whole lines changed. */
     private void faulty() {
         String text = text();
-        String[] parts = {"link", "flow", "off", "seed", "sample", "stage", ";", " ", "0", "1", "65", "1025", "2000", "a", "b",
-            "samples", "abcdefg", "abcdef", "\n", "#", "A", "\u00e9", "link zz 1 0 2 1 3;", "flow zz 5 a;", "off a;", "seed 7;",
-            "sample 1 1 1;", "stage 1 1 1;", "00000000000000000009", "99999999999999999999"};
         int changes = below(4);
+        boolean byLines = below(2) == 0;
         for (int i = 0; i < changes; i++) {
             int at = below(text.length() + 1);
-            int to = Math.min(text.length(), at + below(4));
-            text = text.substring(0, at) + (below(3) == 0 ? "" : parts[below(parts.length)]) + text.substring(to);
+            if (byLines) {
+                at = text.indexOf(';', at) + 1;
+                text = text.substring(0, at) + LINES[below(LINES.length)] + text.substring(at);
+            } else {
+                int to = Math.min(text.length(), at + below(4));
+                text = text.substring(0, at) + (below(3) == 0 ? "" : SIGNS[below(SIGNS.length)]) + text.substring(to);
+            }
         }
         if (text.length() > 700) {
             text = text.substring(0, 700);
