@@ -60,6 +60,16 @@ public final class LosslessFabric {
     private static final int TICK = 296;
     private static final int ROW = 297;
 
+    // Where a plan holds what the lines that stand once tell.
+    private static final int EACH = 0;
+    private static final int MIDDLE = 1;
+    private static final int WEIGHT = 2;
+    private static final int STAGE_CELLS = 3;
+    private static final int STAGE_TICKS = 4;
+    private static final int MORE = 5;
+    private static final int SEED = 6;
+    private static final int SETTINGS = 7;
+
     /** Five bits: a delay of 4 looks back at what was asked five ticks ahead. */
     private static final int ASKED_BITS = 31;
 
@@ -468,7 +478,7 @@ public final class LosslessFabric {
         if (seed < NONE || n < 1 || n > 200 || p < 0 || p > 100 || what < 0 || what > 3) {
             return NONE;
         }
-        int stalled = runByChance(seed == NONE ? plan.seed : seed, n, p);
+        int stalled = runByChance(seed == NONE ? plan.settings[SEED] : seed, n, p);
         switch (what) {
             case 0: return grown(DELIVERED, plan.flowCount);
             case 1: return grown(LINK_LOST, plan.linkCount);
@@ -598,15 +608,9 @@ public final class LosslessFabric {
         private final int[] linkAhead = new int[MAX_LINKS * MAX_FLOWS];
         /** For each link and flow the link behind it on the flow's way, or NONE. */
         private final int[] linkBehind = new int[MAX_LINKS * MAX_FLOWS];
+        private final int[] settings = new int[SETTINGS];
         private int linkCount;
         private int flowCount;
-        private int each;
-        private int middle;
-        private int weight;
-        private int stageCells;
-        private int stageTicks;
-        private int more;
-        private int seed;
 
         Plan() {
             clear();
@@ -615,13 +619,13 @@ public final class LosslessFabric {
         void clear() {
             linkCount = 0;
             flowCount = 0;
-            each = 20;
-            middle = 26;
-            weight = 2;
-            stageCells = 50;
-            stageTicks = 10;
-            more = 4;
-            seed = 0;
+            settings[EACH] = 20;
+            settings[MIDDLE] = 26;
+            settings[WEIGHT] = 2;
+            settings[STAGE_CELLS] = 50;
+            settings[STAGE_TICKS] = 10;
+            settings[MORE] = 4;
+            settings[SEED] = 0;
             for (int i = 0; i < linkAhead.length; i++) {
                 linkAhead[i] = OFF_WAY;
                 linkBehind[i] = NONE;
@@ -646,9 +650,11 @@ public final class LosslessFabric {
             return NONE;
         }
 
-        /** Puts a link at the end of a flow's way, which has room for it and has not been there. */
-        void goOn(int flow, int link) {
-            int hop = hops[flow];
+        /** A flow's way, which has so many links so far, goes on by one where it has not been. */
+        void goOn(int flow, int hop, int link) {
+            if (hop < 0 || hop >= MAX_HOPS) {
+                return;
+            }
             int before = hop == 0 ? SOURCE : paths[flow * MAX_HOPS + hop - 1];
             if (before >= 0) {
                 linkBehind[before * MAX_FLOWS + flow] = link;
@@ -664,12 +670,12 @@ public final class LosslessFabric {
 
         int feedbackOf(int[] row, int link) {
             int fill = row[FILL + link];
-            return fill - middle + weight * (fill - row[FILL_AT_SAMPLE + link]);
+            return fill - settings[MIDDLE] + settings[WEIGHT] * (fill - row[FILL_AT_SAMPLE + link]);
         }
 
         /** 0: there is none. */
         int noticeOf(int feedback) {
-            int span = middle * (1 + 2 * weight);
+            int span = settings[MIDDLE] * (1 + 2 * settings[WEIGHT]);
             if (feedback <= 0 || span <= 0) {
                 return 0;
             }
@@ -772,16 +778,13 @@ public final class LosslessFabric {
     private static final class Reader {
         private int code = 0;
         private int place = NONE;
-        private boolean sampleTold = false;
-        private boolean stageTold = false;
-        private boolean seedTold = false;
+        /** Which of the lines that stand once at most were told, as bits. */
+        private int told = 0;
 
         void begin(Plan plan, int[] row) {
             code = 0;
             place = NONE;
-            sampleTold = false;
-            stageTold = false;
-            seedTold = false;
+            told = 0;
             plan.clear();
             for (int i = 0; i < row.length; i++) {
                 row[i] = 0;
@@ -796,10 +799,10 @@ public final class LosslessFabric {
             switch (tape.value) {
                 case WORD_LINK: return readLink(tape, plan, row);
                 case WORD_FLOW: return readFlow(tape, plan, row);
-                case WORD_SAMPLE: return readSample(tape, plan);
-                case WORD_STAGE: return readStage(tape, plan);
+                case WORD_SAMPLE: return readSample(tape, plan.settings);
+                case WORD_STAGE: return readStage(tape, plan.settings);
                 case WORD_OFF: return readOff(tape, plan, row);
-                default: return readSeed(tape, plan);
+                default: return readSeed(tape, plan.settings);
             }
         }
 
@@ -815,28 +818,13 @@ public final class LosslessFabric {
                 return failed(tape, FAULT_TOLD);
             }
             plan.linkNames[l] = tape.value;
-            if (!readNumber(tape, 1, 64)) {
-                return false;
-            }
-            plan.caps[l] = tape.value;
-            if (!readNumber(tape, 0, 4)) {
-                return false;
-            }
-            plan.delays[l] = tape.value;
-            if (!readNumber(tape, 1, MAX_XOFF)) {
-                return false;
-            }
-            row[XOFF + l] = tape.value;
-            if (!readNumber(tape, 0, Math.min(MAX_XON, row[XOFF + l] - 1))) {
-                return false;
-            }
-            row[XON + l] = tape.value;
-            if (!readNumber(tape, 1, MAX_SIZE)) {
-                return false;
-            }
-            row[SIZE + l] = tape.value;
             plan.linkCount = l + 1;
-            return readSemicolon(tape);
+            return readNumber(tape, 1, 64, plan.caps, l)
+                && readNumber(tape, 0, 4, plan.delays, l)
+                && readNumber(tape, 1, MAX_XOFF, row, XOFF + l)
+                && readNumber(tape, 0, Math.min(MAX_XON, row[XOFF + l] - 1), row, XON + l)
+                && readNumber(tape, 1, MAX_SIZE, row, SIZE + l)
+                && readSemicolon(tape);
         }
 
         private boolean readFlow(Tape tape, Plan plan, int[] row) {
@@ -851,18 +839,14 @@ public final class LosslessFabric {
                 return failed(tape, FAULT_TOLD);
             }
             plan.flowNames[f] = tape.value;
-            if (!readNumber(tape, 1, MAX_RATE)) {
-                return false;
-            }
-            row[RATE + f] = tape.value;
-            row[TARGET + f] = tape.value;
-            row[ON + f] = 1;
-            plan.hops[f] = 0;
-            if (!readPath(tape, plan, f)) {
-                return false;
-            }
             plan.flowCount = f + 1;
-            return true;
+            plan.hops[f] = 0;
+            if (!readNumber(tape, 1, MAX_RATE, row, RATE + f)) {
+                return false;
+            }
+            row[TARGET + f] = row[RATE + f];
+            row[ON + f] = 1;
+            return readPath(tape, plan, f);
         }
 
         /** The links of a flow, and the semicolon behind them. */
@@ -885,49 +869,29 @@ public final class LosslessFabric {
                 if (plan.linkAhead[link * MAX_FLOWS + flow] != OFF_WAY) {
                     return failed(tape, FAULT_TOLD);
                 }
-                plan.goOn(flow, link);
+                plan.goOn(flow, hop, link);
             }
             return false;
         }
 
-        private boolean readSample(Tape tape, Plan plan) {
-            if (sampleTold) {
-                return failed(tape, FAULT_TOLD);
-            }
-            sampleTold = true;
-            if (!readNumber(tape, 1, 999)) {
-                return false;
-            }
-            plan.each = tape.value;
-            if (!readNumber(tape, 1, 500)) {
-                return false;
-            }
-            plan.middle = tape.value;
-            if (!readNumber(tape, 0, 4)) {
-                return false;
-            }
-            plan.weight = tape.value;
-            return readSemicolon(tape);
+        private boolean readSample(Tape tape, int[] settings) {
+            return isFirst(tape, 1)
+                && readNumber(tape, 1, 999, settings, EACH)
+                && readNumber(tape, 1, 500, settings, MIDDLE)
+                && readNumber(tape, 0, 4, settings, WEIGHT)
+                && readSemicolon(tape);
         }
 
-        private boolean readStage(Tape tape, Plan plan) {
-            if (stageTold) {
-                return failed(tape, FAULT_TOLD);
-            }
-            stageTold = true;
-            if (!readNumber(tape, 1, 999)) {
-                return false;
-            }
-            plan.stageCells = tape.value;
-            if (!readNumber(tape, 1, 99)) {
-                return false;
-            }
-            plan.stageTicks = tape.value;
-            if (!readNumber(tape, 1, 99)) {
-                return false;
-            }
-            plan.more = tape.value;
-            return readSemicolon(tape);
+        private boolean readStage(Tape tape, int[] settings) {
+            return isFirst(tape, 2)
+                && readNumber(tape, 1, 999, settings, STAGE_CELLS)
+                && readNumber(tape, 1, 99, settings, STAGE_TICKS)
+                && readNumber(tape, 1, 99, settings, MORE)
+                && readSemicolon(tape);
+        }
+
+        private boolean readSeed(Tape tape, int[] settings) {
+            return isFirst(tape, 4) && readNumber(tape, 0, 99999, settings, SEED) && readSemicolon(tape);
         }
 
         private boolean readOff(Tape tape, Plan plan, int[] row) {
@@ -945,16 +909,13 @@ public final class LosslessFabric {
             return readSemicolon(tape);
         }
 
-        private boolean readSeed(Tape tape, Plan plan) {
-            if (seedTold) {
+        /** Whether the line at hand was not told ahead; it is from now on. */
+        private boolean isFirst(Tape tape, int bit) {
+            if ((told & bit) != 0) {
                 return failed(tape, FAULT_TOLD);
             }
-            seedTold = true;
-            if (!readNumber(tape, 0, 99999)) {
-                return false;
-            }
-            plan.seed = tape.value;
-            return readSemicolon(tape);
+            told |= bit;
+            return true;
         }
 
         private boolean readName(Tape tape) {
@@ -962,13 +923,16 @@ public final class LosslessFabric {
             return tape.kind == NAME || failed(tape, FAULT_TOKEN);
         }
 
-        private boolean readNumber(Tape tape, int least, int most) {
+        private boolean readNumber(Tape tape, int least, int most, int[] into, int at) {
             tape.next();
             if (tape.kind != NUMBER) {
                 return failed(tape, FAULT_TOKEN);
             }
             if (tape.value < least || tape.value > most) {
                 return failed(tape, FAULT_TOO_MUCH);
+            }
+            if (at >= 0 && at < into.length) {
+                into[at] = tape.value;
             }
             return true;
         }
@@ -1135,19 +1099,20 @@ public final class LosslessFabric {
 
         private void sample(Plan plan, int[] row, int link) {
             int base = link * MAX_FLOWS;
+            int each = plan.settings[EACH];
             int met = NONE;
             int counted = row[COUNTED + link];
             for (int f = 0; f < plan.flowCount; f++) {
                 counted += moved[base + f];
-                if (met == NONE && counted >= plan.each) {
+                if (met == NONE && counted >= each) {
                     met = f;
                 }
             }
             row[COUNTED + link] = counted;
-            if (met == NONE || plan.each <= 0) {
+            if (met == NONE || each <= 0) {
                 return;
             }
-            row[COUNTED + link] = counted % plan.each;
+            row[COUNTED + link] = counted % each;
             row[SAMPLES + link]++;
             int notice = plan.noticeOf(plan.feedbackOf(row, link));
             row[FILL_AT_SAMPLE + link] = row[FILL + link];
@@ -1170,14 +1135,15 @@ public final class LosslessFabric {
 
         private void recover(Plan plan, int[] row, int flow) {
             int cells = row[COUNT_OF_CELLS + flow] + sent[flow];
-            while (plan.stageCells > 0 && cells >= plan.stageCells) {
-                cells -= plan.stageCells;
+            int stage = plan.settings[STAGE_CELLS];
+            while (stage > 0 && cells >= stage) {
+                cells -= stage;
                 row[STAGE_BY_CELLS + flow]++;
                 climb(plan, row, flow);
             }
             row[COUNT_OF_CELLS + flow] = cells;
             row[COUNT_OF_TICKS + flow]++;
-            if (row[COUNT_OF_TICKS + flow] == plan.stageTicks) {
+            if (row[COUNT_OF_TICKS + flow] == plan.settings[STAGE_TICKS]) {
                 row[COUNT_OF_TICKS + flow] = 0;
                 row[STAGE_BY_TICKS + flow]++;
                 climb(plan, row, flow);
@@ -1189,9 +1155,9 @@ public final class LosslessFabric {
             int greater = Math.max(row[STAGE_BY_CELLS + flow], row[STAGE_BY_TICKS + flow]);
             int target = row[TARGET + flow];
             if (lesser > 5) {
-                target += plan.more * 2 * (lesser - 5);
+                target += plan.settings[MORE] * 2 * (lesser - 5);
             } else if (greater > 5) {
-                target += plan.more;
+                target += plan.settings[MORE];
             }
             row[TARGET + flow] = Math.min(MAX_RATE, target);
             row[RATE + flow] = (row[RATE + flow] + row[TARGET + flow]) / 2;

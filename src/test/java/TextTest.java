@@ -78,6 +78,33 @@ public final class TextTest {
         Due.feed(x, LINK);
         Due.is("cut short", x.text(16), -1);
         Due.is("all bytes go", x.count(10), 0);
+        // a word, a number that goes on behind what is read
+        Due.feed(x, "seed 123456");
+        Due.is("within a number", x.text(8), -1);
+        Due.is("the length", x.fault(1), 8);
+        Due.feed(x, "offer");
+        Due.is("within a word", x.text(3), -1);
+        Due.is("the length", x.fault(1), 3);
+        fillTape(x, "seed 000000000000007");
+        Due.is("a number up to the last byte", x.text(700), -1);
+        Due.is("its end", x.fault(1), 700);
+        fillTape(x, "link            abcd");
+        Due.is("a word up to the last byte", x.text(700), -1);
+        Due.is("its end", x.fault(1), 700);
+        fillTape(x, "seed        1234567;");
+        Due.is("a semicolon as the last byte", x.text(700), -1);
+        Due.is("too much", x.fault(0) * 1000 + x.fault(1), 2692);
+        fillTape(x, "seed          12345;");
+        Due.is("a semicolon as the last byte", x.text(700), 1);
+    }
+
+    /** 680 blanks, and twenty signs. */
+    private static void fillTape(LosslessFabric x, String twenty) {
+        for (int i = 0; i < 34; i++) {
+            x.feed(0x20202020, 0x20202020, 0x20202020, 0x20202020, 0x20202020);
+        }
+        Due.feed(x, twenty);
+        Due.is("a full tape", x.count(10), 700);
     }
 
     private static void blanks() {
@@ -289,6 +316,20 @@ public final class TextTest {
         Due.is("MIDDLE is 26", w.feedback(0), -26);
         w.tick(50);
         Due.is("five stages are none too many", w.flow(0, 1), 1);
+        String turned = "link a 9 0 9 0 9;flow f 16 a;flow g 32 a;";
+        LosslessFabric v = Due.fabric(turned + "seed 99999;");
+        int[] byText = new int[30];
+        boolean differs = false;
+        for (int n = 1; n <= 30; n++) {
+            byText[n - 1] = v.chance(-1, n, 50, 0);
+            Due.is("the seed of the text", byText[n - 1], v.chance(99999, n, 50, 0));
+            differs |= byText[n - 1] != v.chance(0, n, 50, 0);
+        }
+        Due.is("another than 0", differs, true);
+        Due.text(v, turned);
+        for (int n = 1; n <= 30; n++) {
+            Due.is("seed is 0 again", v.chance(-1, n, 50, 0), v.chance(0, n, 50, 0));
+        }
     }
 
     private static void faultLeavesAllElse() {

@@ -287,10 +287,20 @@ public final class TickTest {
         Due.is("queue", u.link(0, 5), 505);
         Due.is("5 times 64 by 500 is 0: 1 at least", u.notice(0), 1);
         Due.is("1024 less 1024 by 128", u.flow(0, 0), 1016);
-        LosslessFabric t = Due.fabric("sample 1 1 0;stage 999 99 1;link a 2 0 99 1 99;link b 1 4 99 1 99;flow f 1 a b;");
-        t.tick(40);
+        LosslessFabric t = Due.fabric("sample 1 1 0;stage 999 99 1;link a 4 0 99 1 99;link b 1 4 99 1 99;flow f 1024 a b;");
+        t.tick(1);
+        t.rate(0, 3);
+        int[] rates = {2, 2, 2};
+        for (int i = 0; i < rates.length; i++) {
+            t.tick(1);
+            Due.is("a notice each tick", t.flow(0, 6), i + 2);
+            Due.is("3 times 63 by 128 is 1, 2 times is 0", t.flow(0, 0), rates[i]);
+        }
+        t.rate(0, 1);
+        t.tick(1);
+        Due.is("a notice", t.flow(0, 6), 5);
         Due.is("RATE is 1 at least", t.flow(0, 0), 1);
-        Due.is("1 times 63 by 128 is 0", t.flow(0, 1), 1);
+        Due.is("TARGET", t.flow(0, 1), 1);
     }
 
     private static void noticesInOrder() {

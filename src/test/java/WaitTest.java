@@ -140,6 +140,17 @@ public final class WaitTest {
         ring(x, 1, 2, 3);
         Due.is("not a, not f", x.inCycles(0), 30);
         Due.is("a waits", x.waits(0), 2);
+        // a lies in no cycle, though b waits for it
+        LosslessFabric z = Due.fabric(tight(4, "b a", "a d", "b c", "c b"));
+        z.tick(1);
+        Due.is("b waits for a and c", z.waits(1), 5);
+        Due.is("witness first", z.witness(1), 3);
+        Due.is("witness first", z.witness(0), 2);
+        ring(z, 1, 2);
+        // another text: what was waited for ahead of it is forgotten
+        Due.is("text", Due.text(z, tight(4, "a b c d")), 7);
+        Due.is("none", z.inCycles(1), 0);
+        Due.is("none", z.inCycles(0), 0);
         // ten in one ring
         LosslessFabric y = Due.fabric(tight(10, "a b c", "c d e", "e f g", "g h i", "i j a", "b c", "d e", "f g"));
         Due.is("h and j have no cells of their own yet", y.tick(1), 1);
