@@ -840,7 +840,6 @@ public final class LosslessFabric {
             }
             plan.flowNames[f] = tape.value;
             plan.flowCount = f + 1;
-            plan.hops[f] = 0;
             if (!readNumber(tape, 1, MAX_RATE, row, RATE + f)) {
                 return false;
             }

@@ -326,9 +326,11 @@ public final class TextTest {
             differs |= byText[n - 1] != v.chance(0, n, 50, 0);
         }
         Due.is("another than 0", differs, true);
-        Due.text(v, turned);
-        for (int n = 1; n <= 30; n++) {
-            Due.is("seed is 0 again", v.chance(-1, n, 50, 0), v.chance(0, n, 50, 0));
+        for (int texts = 0; texts < 3; texts++) {
+            Due.text(v, turned);
+            for (int n = 1; n <= 30; n++) {
+                Due.is("seed is 0 again", v.chance(-1, n, 50, 0), v.chance(0, n, 50, 0));
+            }
         }
     }
 
