@@ -4,6 +4,8 @@ import java.nio.charset.StandardCharsets;
 final class Due {
     private static int right = 0;
     private static int wrong = 0;
+    /** Told ahead of each wrong answer: what the test at hand is about. */
+    private static String about = "";
 
     private Due() {
     }
@@ -15,12 +17,31 @@ final class Due {
         }
         wrong++;
         if (wrong <= 40) {
-            System.out.println(call + " answered " + got + ", due is " + want);
+            System.out.println(about + call + " answered " + got + ", due is " + want);
         }
     }
 
     static void is(String call, boolean got, boolean want) {
         is(call, got ? 1 : 0, want ? 1 : 0);
+    }
+
+    /** Two long answers, told where they differ first. */
+    static void same(String call, String got, String want) {
+        int at = 0;
+        while (at < got.length() && at < want.length() && got.charAt(at) == want.charAt(at)) {
+            at++;
+        }
+        boolean equal = got.equals(want);
+        is(equal ? call : call + " differs at \"" + got.substring(Math.max(0, at - 30), Math.min(got.length(), at + 20)) + "\"",
+            equal, true);
+    }
+
+    static void about(String words) {
+        about = words;
+    }
+
+    static int answers() {
+        return right + wrong;
     }
 
     /** Feeds the bytes of a text, blanks behind it, without taking it as the text. */
