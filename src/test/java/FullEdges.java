@@ -218,25 +218,25 @@ final class FullEdges {
             return x;
         });
         Sentence.of(28, "If all FLOWS were OFF from now on,");
-        LosslessFabric x = full(20);
-        LosslessFabric y = full(20);
-        for (int f = 0; f < 8; f++) {
-            y.turn(f);
+        for (int ticks : new int[] {0, 1, 2, 20}) {
+            int n = 0;
+            while (n <= 300 && !isQuiet(ticks, n)) {
+                n++;
+            }
+            Due.is("TICK " + ticks + ", quiet()", full(ticks).quiet(), n > 300 ? -2 : n);
         }
-        int ticks = 0;
-        while (ticks <= 300 && filled(y) > 0) {
-            y.tick(1);
-            ticks++;
-        }
-        Due.is("quiet()", x.quiet(), ticks > 300 ? -2 : ticks);
-        Due.is("some are there", filled(x) > 0, true);
     }
 
-    private static int filled(LosslessFabric x) {
-        int all = 0;
-        for (int l = 0; l < 10; l++) {
-            all += x.link(l, 5);
+    /** Whether all queues are empty so many ticks after all flows were turned off. */
+    private static boolean isQuiet(int ticks, int n) {
+        LosslessFabric x = full(ticks);
+        for (int f = 0; f < 8; f++) {
+            x.turn(f);
         }
-        return all;
+        int cells = 0;
+        for (int l = 0; l < 10; l++) {
+            cells += x.ahead(l, n, 0);
+        }
+        return cells == 0;
     }
 }

@@ -113,7 +113,7 @@ final class Shown {
         LosslessFabric x = make.make();
         LosslessFabric y = make.make();
         call.on(x);
-        for (int i = 0; i <= 21; i++) {
+        for (int i = 0; i <= 20; i++) {
             Due.is(name + ": undo()", x.undo(), y.undo());
             Due.same(name + ": what was undone", brief(x), brief(y));
         }
@@ -122,7 +122,7 @@ final class Shown {
 
     private static String brief(LosslessFabric x) {
         StringBuilder s = new StringBuilder();
-        for (int what = 2; what <= 8; what++) {
+        for (int what = 2; what <= 7; what++) {
             s.append(x.count(what)).append(' ');
         }
         return s.append(x.flow(0, 0)).append(' ').append(x.flow(1, 0)).toString();

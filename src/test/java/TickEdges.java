@@ -166,31 +166,37 @@ final class TickEdges {
         }
     }
 
-    /** Eight flows of 1 to 8 cells, and of 8 to 1: a flow less in each round, for every CAP. */
+    /** Eight flows, a flow less in each round, for every CAP: the last one may have much more. */
     private static void roundsOfEight() {
         Sentence.of(TERMS, "each of which has a cell left gives one, till CAP have come or none has any:");
-        for (int cap = 1; cap <= 37; cap++) {
-            for (boolean up : new boolean[] {true, false}) {
-                StringBuilder s = new StringBuilder(CALM + "link a " + cap + " 0 9 0 9;");
-                int[] left = new int[8];
-                int[] given = new int[8];
-                for (int f = 0; f < 8; f++) {
-                    left[f] = up ? f + 1 : 8 - f;
-                    s.append("flow ").append((char) ('a' + f)).append(' ').append(16 * left[f]).append(" a;");
-                }
-                for (int f = 0, come = 0; come < Math.min(cap, 36); f = (f + 1) % 8) {
-                    if (left[f] > given[f]) {
-                        given[f]++;
-                        come++;
-                    }
-                }
-                LosslessFabric x = Due.fabric(s.toString());
-                x.tick(1);
-                Due.is("CARRIED", x.link(0, 12), Math.min(cap, 36));
-                for (int f = 0; f < 8; f++) {
-                    Due.is("CAP " + cap + ", flow " + f, x.flow(f, 4), given[f]);
-                }
+        int[][] cells = {{1, 2, 3, 4, 5, 6, 7, 8}, {8, 7, 6, 5, 4, 3, 2, 1}, {1, 2, 3, 4, 5, 6, 7, 64}, {64, 1, 2, 3, 4, 5, 6, 7},
+            {1, 2, 1, 2, 1, 2, 1, 2}, {64, 64, 64, 64, 64, 64, 64, 64}};
+        for (int[] have : cells) {
+            for (int cap = 1; cap <= 64; cap++) {
+                rounds(have, cap);
             }
+        }
+    }
+
+    private static void rounds(int[] have, int cap) {
+        StringBuilder s = new StringBuilder(CALM + "link a " + cap + " 0 9 0 9;");
+        int all = 0;
+        for (int f = 0; f < 8; f++) {
+            all += have[f];
+            s.append("flow ").append((char) ('a' + f)).append(' ').append(16 * have[f]).append(" a;");
+        }
+        int[] given = new int[8];
+        for (int f = 0, come = 0; come < Math.min(cap, all); f = (f + 1) % 8) {
+            if (have[f] > given[f]) {
+                given[f]++;
+                come++;
+            }
+        }
+        LosslessFabric x = Due.fabric(s.toString());
+        x.tick(1);
+        Due.is("CARRIED", x.link(0, 12), Math.min(cap, all));
+        for (int f = 0; f < 8; f++) {
+            Due.is("CAP " + cap + ", flow " + f + " of " + have[f] + " cells", x.flow(f, 4), given[f]);
         }
     }
 
